@@ -51,9 +51,9 @@ public final class NeverAgain {
     private int readFault;
 
     public NeverAgain() {
-        tape = new TextReader();
         told = new Told();
         draft = new Told();
+        tape = new TextReader(draft);
         almanac = new Almanac(told);
         planner = new Planner(almanac);
         delayer = new Delayer(almanac);
@@ -96,7 +96,6 @@ public final class NeverAgain {
         told = draft;
         draft = old;
         yearLength = 0;
-        Arrays.fill(year, 0);
         forgetImages();
         return lines;
     }
@@ -238,11 +237,11 @@ public final class NeverAgain {
     public int holds() {
         almanac.begin(told, 0);
         for (int followed = 0; followed <= MOST_DAYS; followed++) {
-            int bits = almanac.freeBits();
-            if (bits == 0) {
+            int least = almanac.leastFree();
+            if (least == 0) {
                 return followed;
             }
-            almanac.pass(Integer.numberOfTrailingZeros(bits));
+            almanac.pass(least);
         }
         return MOST_DAYS + 1;
     }
@@ -743,6 +742,17 @@ public final class NeverAgain {
             return bits;
         }
 
+        /** 0: none may be rung. */
+        int leastFree() {
+            int bits = freeBits();
+            for (int n = 1; n <= told.most; n++) {
+                if ((bits & (1 << n)) != 0) {
+                    return n;
+                }
+            }
+            return 0;
+        }
+
         int meaning(int n, int bits) {
             if (!told.hasNumber(n) || told.matters < 1) {
                 return NONE;
@@ -964,21 +974,43 @@ public final class NeverAgain {
             if (day > LAST_WAIT_DAY || d.someIsLate(told, day, left)) {
                 return;
             }
-            int bits = d.almanac.freeBits();
             for (int i = 0; i < d.length; i++) {
-                for (int n = 1; n <= told.most && (left & (1 << i)) != 0; n++) {
-                    if (d.almanac.tells(n, told.waiting[i], bits)) {
-                        d.trialDay[i] = day;
-                        d.trialNumber[i] = n;
-                        d.almanac.pass(n);
-                        searchFrom(d, told, day + 1, left & ~(1 << i), sum + n);
-                        d.almanac.takeBack();
-                    }
+                if ((left & (1 << i)) != 0 && !d.isBehindItsLike(told, i, left)) {
+                    tryNumbers(d, told, day, left, sum, i);
                 }
             }
             d.almanac.pass(0);
             searchFrom(d, told, day + 1, left, sum);
             d.almanac.takeBack();
+        }
+
+        private static void tryNumbers(Delayer d, Told told, int day, int left, int sum, int i) {
+            int bits = d.almanac.freeBits();
+            int others = left & ~(1 << i);
+            int atLeast = sum + d.floorOf(others);
+            for (int n = 1; n <= told.most && atLeast + n < d.strokes; n++) {
+                if (d.almanac.tells(n, told.waiting[i], bits)) {
+                    d.trialDay[i] = day;
+                    d.trialNumber[i] = n;
+                    d.almanac.pass(n);
+                    searchFrom(d, told, day + 1, others, sum + n);
+                    d.almanac.takeBack();
+                }
+            }
+        }
+
+        /**
+         * Whether an earlier one waits for the same matter, and not longer: were this one told
+         * ahead of it, both could change places, and that way comes first.
+         */
+        private boolean isBehindItsLike(Told told, int i, int left) {
+            for (int j = 0; j < i; j++) {
+                boolean like = told.waiting[j] == told.waiting[i] && told.until[j] <= told.until[i];
+                if (like && (left & (1 << j)) != 0) {
+                    return true;
+                }
+            }
+            return false;
         }
 
         private int floorOf(int left) {
@@ -1045,8 +1077,9 @@ public final class NeverAgain {
                 }
                 return;
             }
-            // All that are picked behind n are above it.
-            for (int n = from; n <= s.most && n * left <= strokes; n++) {
+            // All that are picked behind n are above it, and none is above the most.
+            int least = Math.max(from, strokes - (left - 1) * s.most);
+            for (int n = least; n <= s.most && n * left <= strokes; n++) {
                 if ((s.rungBits & (1 << n)) == 0) {
                     pickFrom(s, n + 1, left - 1, strokes - n, bits | (1 << n));
                 }
@@ -1143,6 +1176,10 @@ public final class NeverAgain {
         private int kind;
         private int start;
         private int number;
+
+        TextReader(Told into) {
+            draft = into;
+        }
 
         boolean append(long v) {
             if (length < 0 || length + 8 > TAPE_BYTES) {
@@ -1371,27 +1408,21 @@ public final class NeverAgain {
                 place++;
                 return true;
             }
-            if (isFigure(byteAt(place))) {
-                return takeFigures();
-            }
             kind = NAME;
             while (place < length && isLetter(byteAt(place))) {
                 place++;
             }
-            return place > start || fail(NO_TOKEN, start);
-        }
-
-        private boolean takeFigures() {
+            if (place > start) {
+                return true;
+            }
             kind = FIGURES;
             number = 0;
-            while (place < length && isFigure(byteAt(place))) {
-                if (place - start >= 2) {
-                    return fail(NO_TOKEN, start);
-                }
+            while (place < length && place - start < 3 && isFigure(byteAt(place))) {
                 number = number * 10 + byteAt(place) - '0';
                 place++;
             }
-            return true;
+            boolean oneOrTwo = place - start == 1 || place - start == 2;
+            return oneOrTwo || fail(NO_TOKEN, start);
         }
 
         private boolean isName(String name) {
