@@ -502,11 +502,11 @@ public final class NeverAgain {
         }
         Sheet from = sheets[k];
         int daysBefore = told.dayCount;
-        int found = from.faultAs(lane);
+        int found = 0;
         almanac.begin(told, 0);
         int went = 0;
         for (int i = 0; i < n && found == 0; i++) {
-            found = from.faultAt(f + i);
+            found = from.faultAs(lane, f + i);
             if (found == 0) {
                 int number = from.cell(f + i);
                 if (refusal(number, almanac.freeBits()) != 0) {
@@ -1116,9 +1116,9 @@ public final class NeverAgain {
             Arrays.fill(cells, 0);
         }
 
-        /** What the machine finds when the sheet is taken as of a lane: nothing is of each. */
-        int faultAs(int otherLane) {
-            return lane != NOTHING && lane != otherLane ? TORN_CAST : 0;
+        /** The fault of one cell read as of a lane: nothing is of each lane, so NULL is ahead of CAST. */
+        int faultAs(int otherLane, int i) {
+            return lane != NOTHING && lane != otherLane ? TORN_CAST : faultAt(i);
         }
 
         int faultAt(int i) {

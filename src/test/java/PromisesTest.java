@@ -730,6 +730,17 @@ public final class PromisesTest {
         due("39 index high", 0, x.read(0, 0, HIGH, 20));
         due("39 no days", 0, x.read(0, 0, 0, 0));
         due("40 no days", 0, x.torn());
+        x.read(0, 1, 9, 1);
+        due("40 cast ahead of index", 3, x.torn());
+        due("39 no days of another lane", 0, x.read(0, 1, 0, 0));
+        due("40 no days of another lane", 0, x.torn());
+        x.read(1, 1, -1, 1);
+        due("40 null ahead of index", 1, x.torn());
+        due("39 no days of nothing", 0, x.read(1, 1, -1, 0));
+        due("40 no days of nothing", 0, x.torn());
+        x.read(0, 2, -1, 1);
+        due("39 no days past the end", 0, x.read(0, 0, 99, 0));
+        due("40 no days past the end", 0, x.torn());
         x = told("rung" + " 0".repeat(58) + ";");
         x.sheet(3, 1, 3);
         due("39 full", -22, x.read(3, 1, 0, 3));

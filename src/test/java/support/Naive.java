@@ -795,12 +795,10 @@ final class Naive {
         int went = 0;
         int found = 0;
         try {
-            byte[] bytes = lane == 0 ? (byte[]) sheets[k] : null;
-            short[] shorts = lane == 1 ? (short[]) sheets[k] : null;
-            int[] ints = lane == 2 ? (int[]) sheets[k] : null;
             while (went < n) {
                 int i = f + went;
-                int v = lane == 0 ? bytes[i] : lane == 1 ? shorts[i] : ints[i];
+                int v = lane == 0 ? ((byte[]) sheets[k])[i]
+                    : lane == 1 ? ((short[]) sheets[k])[i] : ((int[]) sheets[k])[i];
                 int a = ring(v);
                 if (a == BAD || a == STATE || a == FULL) {
                     undo(before);
