@@ -135,6 +135,8 @@ public final class BoundsTest {
         x = told("most 4;matters 1;");
         due("8 one matter", 1, x.weight(0));
         due("8 one matter", BAD, x.weight(1));
+        due("8 one matter, not two more", BAD, x.weight(2));
+        due("8 one matter, not three more", BAD, x.weight(3));
         due("9 four numbers", NONE, x.page(4));
         due("9 four numbers", BAD, x.page(5));
     }
@@ -492,6 +494,9 @@ public final class BoundsTest {
         due("25 behind 60 days", 11, x.plan(0));
         due("25 behind 60 days", 1, x.plan(14));
         due("26 behind 60 days", 11, x.byRule(0));
+        x = told("most 4;matters 1;rung 2 1;ask 0;");
+        due("25 behind the latest day", 3, x.plan(0));
+        due("26 behind the latest day", 3, x.byRule(0));
     }
 
     /** The rule goes into a day without a number where a plan does not. */
@@ -507,6 +512,17 @@ public final class BoundsTest {
         due("27 rows by rule", 0, x.worst(2, 0));
         // 0 0 is 1 5 by both
         due("27 the row", 0, x.worst(2, 1));
+        // 1 6 is found first, 4 2 has one stroke less
+        x = told("most 6;book told;near;page 1 0;page 4 0;page 2 1;page 6 1;ask 0 1;");
+        due("25 one stroke less", 6, x.plan(0));
+        due("25 one stroke less", 4, x.plan(10));
+        due("26 one stroke more", 7, x.byRule(0));
+        // 3 12 10 7 by rule, 7 4 10 3 by plan
+        x = told("most 12;matters 3;book told;near;page 3 0;page 7 0;page 4 1;page 12 1;page 10 2;ask 0 1 2 0;");
+        due("26 four days", 32, x.byRule(0));
+        due("26 four days", 7, x.byRule(13));
+        due("25 four days", 24, x.plan(0));
+        due("25 a number that another way rang earlier", 3, x.plan(13));
         // of 1 3 and 3 1 the first by numbers
         x = told("most 4;book told;near;page 1 0;page 2 0;page 3 0;ask 0 0;");
         due("25 fewest", 4, x.plan(0));
@@ -708,6 +724,10 @@ public final class BoundsTest {
         due("33 a silent day between", 2, x.putOff(11));
         x = told("most 4;matters 2;near;book told;page 1 0;page 2 1;wait 1 1;wait 0 1;");
         due("33 no day between", NONE, x.putOff(0));
+        // 1 may be again on day 1: so the latter of both goes first
+        x = told("most 4;matters 2;gap 2;book told;page 1 0;page 2 1;rung 1;wait 0 4;wait 1 4;");
+        due("33 the first can not be yet", 1, x.putOff(10));
+        due("33 the first can not be yet", 0, x.putOff(11));
         x = told("most 4;matters 2;near;book told;page 1 0;page 2 1;wait 1 4;wait 0 1;");
         due("33 the other is in haste", 2, x.putOff(10));
         due("33 the other is in haste", 0, x.putOff(11));
@@ -791,6 +811,8 @@ public final class BoundsTest {
         x.feed(0);
         x.sheet(0, 0, 40);
         x.read(0, 1, 0, 1);
+        x.ask(1);
+        x.stay(1, 4);
         due("36 60 days", 60, x.back(1));
         due("36 full", FULL, x.ring(0));
         due("36 five are asked", FULL, x.ask(0));
@@ -798,6 +820,49 @@ public final class BoundsTest {
         due("36 the tape stays", 8, x.count(4));
         due("36 sheets stay", 40, x.count(5));
         due("36 torn stays", 3, x.torn());
+        imagesOfWhatIsTold();
+    }
+
+    private static void imagesOfWhatIsTold() {
+        NeverAgain x = told("most 16;matters 4;book told;page 1 0;page 2 1;page 16 3;page 15 2;gap 5;"
+            + "rung 16;ask 0 1 2;wait 0 1;wait 1 1;wait 3 4;");
+        x.keep(0);
+        x.write(16, NONE);
+        x.write(15, 0);
+        x.write(1, 1);
+        x.write(2, 0);
+        x.drop(1);
+        x.ask(0);
+        x.ask(1);
+        x.serve();
+        x.stay(1, 0);
+        x.stay(0, 2);
+        x.stay(2, 2);
+        x.undo(0);
+        x.keep(1);
+        due("36 back", 1, x.back(0));
+        due("36 page 16", 3, x.page(16));
+        due("36 page 15", 2, x.page(15));
+        due("36 page 1", 0, x.page(1));
+        int[] plan = {1, 2, 15, NONE};
+        for (int i = 0; i < 4; i++) {
+            due("36 what is asked " + i, plan[i], x.plan(10 + i));
+        }
+        int[] days = {0, 1, 4, NONE};
+        int[] numbers = {1, 2, 16, NONE};
+        for (int i = 0; i < 4; i++) {
+            due("36 what waits " + i, days[i], x.putOff(10 + i));
+            due("36 what waits " + i, numbers[i], x.putOff(20 + i));
+        }
+        due("36 the other", 0, x.back(1));
+        due("36 what else waits has no page", NONE, x.putOff(0));
+        x.write(16, 2);
+        int[] otherDays = {0, 1, 2, NONE};
+        int[] otherNumbers = {1, 2, 16, NONE};
+        for (int i = 0; i < 4; i++) {
+            due("36 what else waits " + i, otherDays[i], x.putOff(10 + i));
+            due("36 what else waits " + i, otherNumbers[i], x.putOff(20 + i));
+        }
     }
 
     private static void sheet() {

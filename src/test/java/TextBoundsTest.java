@@ -98,12 +98,34 @@ public final class TextBoundsTest {
             }
             refused(open, 2, open.length());
         }
+        almostNames();
         for (String name : new String[] {"fixed", "rank", "told", "text", "line", "lines", "b", "n", "nea", "nears"}) {
             refused("near;" + name + ";", 2, 5);
         }
         for (String name : new String[] {"most", "book", "near", "fixeds", "ran", "tol", "b"}) {
             refused("book " + name + ";", 2, 5);
         }
+    }
+
+    /** Each letter counts, and so does the length. */
+    private static void almostNames() {
+        for (String[] line : LINES) {
+            boolean book = line[1].equals("book");
+            String name = book ? line[2] : line[1];
+            String start = book ? "book " : "";
+            String rest = book ? ";" : " " + line[2] + ";";
+            for (int i = 0; i < name.length(); i++) {
+                char other = name.charAt(i) == 'q' ? 'v' : 'q';
+                refused(start + name.substring(0, i) + other + name.substring(i + 1) + rest, 2, start.length());
+                refused(start + name.substring(0, i) + name.substring(i + 1) + rest, 2, start.length());
+            }
+            refused(start + name + "q" + rest, 2, start.length());
+            refused(start + name + name + rest, 2, start.length());
+        }
+        refused("qook told;", 2, 0);
+        refused("booq told;", 2, 0);
+        refused("boo told;", 2, 0);
+        refused("books told;", 2, 0);
     }
 
     private static void bounds(String before, int low, int high, String behind) {
@@ -377,6 +399,33 @@ public final class TextBoundsTest {
         C.due("4 days are gone", 0, x.rule(5));
         C.due("4 the year is gone", 0, x.count(0));
         C.due("4 the image is gone", STATE, x.back(0));
+        severalTexts();
+    }
+
+    /** No text leaves anything to a later one. */
+    private static void severalTexts() {
+        String all = "most 5;matters 3 9 8 7;gap 3;near;book told;page 5 2;rung 1 2;ask 2;wait 2 4;";
+        NeverAgain x = new NeverAgain();
+        for (int i = 0; i < 3; i++) {
+            C.due("4 all", 9, Checks.tell(x, all));
+        }
+        for (int i = 0; i < 3; i++) {
+            C.due("4 a fault", -10 - all.length(), Checks.tell(x, all + "#"));
+        }
+        int[] rules = {12, 2, 0, 0, 0, 0};
+        for (int texts = 0; texts < 3; texts++) {
+            C.due("4 nothing", 0, x.text());
+            for (int i = 0; i < 6; i++) {
+                C.due("4 rule " + i, rules[i], x.rule(i));
+            }
+            for (int n = 1; n <= 12; n++) {
+                C.due("4 page " + n, NONE, x.page(n));
+            }
+            C.due("4 weight 0", 1, x.weight(0));
+            C.due("4 weight 1", 1, x.weight(1));
+            C.due("4 asked", 0, x.count(1));
+            C.due("4 waits", 0, x.count(2));
+        }
     }
 
     private static void latestFault() {
