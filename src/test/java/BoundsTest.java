@@ -724,6 +724,16 @@ public final class BoundsTest {
         due("33 a silent day between", 2, x.putOff(11));
         x = told("most 4;matters 2;near;book told;page 1 0;page 2 1;wait 1 1;wait 0 1;");
         due("33 no day between", NONE, x.putOff(0));
+        // of 1 3 and 3 1 on the same days the least number first
+        x = told("most 4;matters 1;near;wait 0 1;wait 0 1;");
+        due("33 of one the least number first", 4, x.putOff(0));
+        due("33 of one the least number first", 1, x.putOff(20));
+        due("33 of one the least number first", 3, x.putOff(21));
+        // the one that waits first is ahead, though its number is greater
+        x = told("most 4;matters 2;book told;page 4 1;page 1 0;page 2 0;wait 1 4;wait 0 4;");
+        due("33 who waits is ahead of which number", 4, x.putOff(20));
+        due("33 who waits is ahead of which number", 0, x.putOff(10));
+        due("33 who waits is ahead of which number", 1, x.putOff(11));
         // 1 may be again on day 1: so the latter of both goes first
         x = told("most 4;matters 2;gap 2;book told;page 1 0;page 2 1;rung 1;wait 0 4;wait 1 4;");
         due("33 the first can not be yet", 1, x.putOff(10));
