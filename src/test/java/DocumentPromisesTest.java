@@ -296,6 +296,8 @@ public final class DocumentPromisesTest {
         x.cut(3);
         x.tell(1);
         judged("1 is never RUNG again", x, 3, 0);
+        x.cut(3);
+        judged("what was cut is not judged", x, NONE, NONE);
         x.cut(1);
         x.tell(2);
         x.tell(4);
@@ -371,11 +373,15 @@ public final class DocumentPromisesTest {
         x.ask(0);
         dueFrom("0 is told by two NUMBERS alone", 10, x::plan, NONE, NONE, NONE, NONE, NONE);
         due("there is none", NONE, x.plan(0));
-        says("## Promise 26: byRule `int byRule(int what)`: BY RULE: likewise.");
         x.drop(2);
+        due("4 and 2 again", 6, x.plan(0));
+        says("## Promise 26: byRule `int byRule(int what)`: BY RULE: likewise.");
         due("1 and 6", 7, x.byRule(0));
         dueFrom("byRule", 10, x::byRule, 1, 6, NONE, NONE, NONE);
         dueFrom("byRule", 10, five::byRule, 1, 2, 3, 4, 5);
+        x.ring(1);
+        due("by DAYS that went: 1 is RUNG", 4 + 2, x.byRule(0));
+        dueFrom("byRule", 10, x::byRule, 4, 2, NONE);
         x.drop(0);
         due("nothing", 0, x.byRule(0));
         due("nothing", 0, x.plan(0));
@@ -473,6 +479,7 @@ public final class DocumentPromisesTest {
         dueFrom("MISSED", -1, x::alike, BAD, bits(2, 3, 5, 6), bits(2, 3), bits(2, 3), bits(5, 6), bits(5, 6));
         due("MISSED 10", bits(5, 6), x.alike(10));
         due("MISSED 11", BAD, x.alike(11));
+        due("the least NUMBER too", bits(1, 2), told("most 4;book rank;rung 3;").alike(1));
         x.book(0);
         due("fixed: all that may be RUNG", bits(2, 3, 5, 6), x.alike(3));
         x.book(2);
@@ -542,6 +549,10 @@ public final class DocumentPromisesTest {
         setsAre(x, 3, 14, 3, bits(1, 6, 7), 0);
         setsAre(x, 5, 25, 1, bits(3, 4, 5, 6, 7), bits(3, 4, 5, 6, 7));
         setsAre(x, 6, 26, 1, bits(1, 3, 4, 5, 6, 7), bits(1, 3, 4, 5, 6, 7));
+        x.ring(7);
+        setsAre(x, 1, 7, 0, NONE, NONE);
+        x.undo(1);
+        setsAre(x, 1, 7, 1, bits(7), bits(7));
         setsAre(told("most 16;"), 6, 81, 1, bits(11, 12, 13, 14, 15, 16), bits(11, 12, 13, 14, 15, 16));
         setsAre(told("most 16;"), 6, 80, 1, bits(10, 12, 13, 14, 15, 16), bits(10, 12, 13, 14, 15, 16));
         setsAre(told("most 16;"), 2, 17, 8, bits(1, 16), 0);
@@ -610,6 +621,22 @@ public final class DocumentPromisesTest {
         x.write(2, 1);
         due("as often as one likes", 1, x.back(0));
         due("PAGE", NONE, x.page(2));
+        NeverAgain large = told("most 16;matters 4;page 16 3;page 15 2;rung" + " 16".repeat(60)
+            + ";ask 0 0 0 0 3;wait 0 0;wait 0 1;wait 0 2;wait 3 3;book told;gap 1;page 1 0;");
+        large.keep(1);
+        large.write(16, 2);
+        large.write(15, NONE);
+        large.undo(0);
+        large.ring(1);
+        large.drop(0);
+        large.serve();
+        due("60 DAYS", 60, large.back(1));
+        due("PAGE 16", 3, large.page(16));
+        due("PAGE 15", 2, large.page(15));
+        due("DAY 0", 16, large.day(0));
+        due("DAY 59", 16, large.day(59));
+        due("all that are ASKED", 4 + 16, large.plan(0));
+        due("all that WAIT", 3 + 16, large.putOff(0));
         says("BAD; STATE: there is none.");
         due("back 2", BAD, x.back(2));
         due("back -1", BAD, x.back(-1));
@@ -732,6 +759,9 @@ public final class DocumentPromisesTest {
         due("60", 2, x.read(0, 0, 0, 2));
         due("FULL", -20, x.read(0, 0, 0, 1));
         due("none, though there are 60", 0, x.read(0, 0, 0, 0));
+        x = withSheet("most 4;near;rung 1 4;", 0, 4, 3);
+        due("STATE, by the latest DAY that went", -20, x.read(0, 0, 1, 1));
+        due("STATE, next to the latest DAY that went", -20, x.read(0, 0, 2, 1));
         says("## Promise 40: torn `int torn()`: The FAULT of the latest read() that came to an end; 0.");
         due("at first", 0, new NeverAgain().torn());
         x = withSheet("most 4;", 1, 1);

@@ -303,6 +303,7 @@ public final class DocumentTermsTest {
         due("at first", 0, new NeverAgain().rule(2));
         faulty("gap 21;", 3, 4);
         due("never again", upTo(12) & ~bits(5), told("rung 5" + " 0".repeat(59) + ";").may());
+        due("never again, the greatest", upTo(15), told("most 16;rung 16 0;").may());
         due("gap 0 is never again", STATE, told("gap 0;rung 5" + " 0".repeat(40) + ";").ring(5));
         for (int gap = 1; gap <= 20; gap++) {
             NeverAgain x = told("gap " + gap + ";rung 0 0 0 5;");
@@ -479,6 +480,7 @@ public final class DocumentTermsTest {
             due("the " + i + "th by its NUMBER", asked[i], x.plan(10 + i));
         }
         faulty("ask 4;", 3, 4);
+        taken("matters 4;ask 0 1 2 3;ask 3;", 3);
         says("wait: a MATTER, up to which DAY (0 to 4).");
         x = told("most 4;matters 4;gap 1;book told;page 1 0;page 2 1;page 3 2;page 4 3;wait 3 3;wait 0 0;wait 2 4;wait 1 4;");
         due("how many", 4, x.count(2));
@@ -507,6 +509,9 @@ public final class DocumentTermsTest {
         faulty("gap#;gap 21;", 1, 3);
         faulty("rung 13;gap;", 2, 11);
         faulty("book 123;", 1, 5);
+        faulty("near 123;", 1, 5);
+        faulty("gap 5 123;", 1, 6);
+        faulty("page 123 0;", 1, 5);
         says("1 no TOKEN, a NUMBER that is too long (its first byte).");
         faulty("#", 1, 0);
         faulty("near;  #", 1, 7);
@@ -517,6 +522,11 @@ public final class DocumentTermsTest {
         faulty("most 4;fixed;", 2, 7);
         faulty("mos 4;", 2, 0);
         faulty("mostly 4;", 2, 0);
+        for (String line : new String[] {"most 4;", "matters 1;", "gap 1;", "near;", "page 1 1;", "rung 1;", "ask 1;", "wait 1 1;"}) {
+            faulty("x" + line.substring(1), 2, 0);
+            faulty("x" + line, 2, 0);
+        }
+        faulty("book xold;", 2, 5);
         faulty("book ran;", 2, 5);
         faulty("book ranks;", 2, 5);
         faulty(";", 2, 0);
@@ -555,6 +565,7 @@ public final class DocumentTermsTest {
         faulty("wait 0 0;".repeat(4) + "wait", 5, 36);
         says("Behind all (the length): 6 a NUMBER, a MATTER that there is not.");
         faulty("page 13 0; ", 6, 11);
+        faulty("page 16 0;", 6, 10);
         faulty("page 1 2;", 6, 9);
         faulty("rung 1 13;", 6, 10);
         faulty("ask 0 2;", 6, 8);
@@ -572,6 +583,17 @@ public final class DocumentTermsTest {
         x.keep(0);
         x.keep(1);
         due("taken", 1, Checks.tell(x, "rung 7;"));
+        toldAnew(x);
+        due("taken again", 1, Checks.tell(x, "rung 7;"));
+        toldAnew(x);
+        Checks.tell(x, "most 16;matters 4;rung 16 16 16;ask 3 3;wait 3 0;wait 3 0;page 16 3;");
+        for (int i = 0; i < 3; i++) {
+            due("there are fewer NUMBERS and MATTERS than there were", 2, Checks.tell(x, "most 4;matters 1;"));
+        }
+    }
+
+    /** What "rung 7;" tells, whatever there was. */
+    private static void toldAnew(NeverAgain x) {
         int[] rules = {12, 2, 0, 0, 0, 1};
         for (int what = 0; what < 6; what++) {
             due("rule " + what, rules[what], x.rule(what));
@@ -659,6 +681,9 @@ public final class DocumentTermsTest {
         // Of several: the one that was told first is told first, though its MATTER is greater.
         done("most 4;wait 1 4;wait 0 4;", 3, 0, 2, 1, 1);
         done("most 4;wait 0 4;wait 1 4;", 3, 0, 1, 1, 2);
+        // The one that was told later is told earlier, where that is cheaper or comes first.
+        done("most 4;gap 3;book told;page 1 0;page 2 1;rung 1;wait 0 4;wait 1 4;", 3, 2, 1, 0, 2);
+        done("most 4;gap 4;near;book told;page 1 0;page 4 0;page 2 1;rung 1;wait 0 4;wait 1 4;", 3, 3, 1, 1, 2);
         // Of one the least NUMBER.
         done("most 4;matters 1;book told;page 4 0;page 2 0;wait 0 4;wait 0 4;", 6, 0, 2, 1, 4);
         // SILENT last.
