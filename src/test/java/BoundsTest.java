@@ -2,26 +2,11 @@
  * Each boundary that the document names, by promise: the last value that goes and the first that
  * does not, on both sides; empty and full. (The text has TextBoundsTest, refused calls RefusedTest.)
  */
-public final class BoundsTest {
-    private static final int BAD = -1, STATE = -2, FULL = -3, NONE = -4;
-    private static final int LOW = Integer.MIN_VALUE, HIGH = Integer.MAX_VALUE;
+public final class BoundsTest extends Bell {
     private static final Checks C = new Checks("BoundsTest");
 
     private static void due(String call, long want, long got) {
         C.due(call, want, got);
-    }
-
-    private static NeverAgain told(String text) {
-        return Checks.told(text);
-    }
-
-    private static int bits(int... numbers) {
-        return Checks.bits(numbers);
-    }
-
-    /** All numbers from 1 to the most. */
-    private static int upTo(int most) {
-        return (1 << (most + 1)) - 2;
     }
 
     // ---- the text

@@ -4,9 +4,7 @@ import java.io.IOException;
  * The document from its first promise to its last line, passage by passage: each is quoted, and
  * behind it stands what would not be so if it did not hold. DocumentTermsTest has what is ahead.
  */
-public final class DocumentPromisesTest {
-    private static final int BAD = -1, STATE = -2, FULL = -3, NONE = -4;
-    private static final int LOW = Integer.MIN_VALUE, HIGH = Integer.MAX_VALUE;
+public final class DocumentPromisesTest extends Bell {
     private static final Checks C = new Checks("DocumentPromisesTest");
     private static Document doc;
 
@@ -16,18 +14,6 @@ public final class DocumentPromisesTest {
 
     private static void due(String call, long want, long got) {
         doc.due(call, want, got);
-    }
-
-    private static NeverAgain told(String text) {
-        return Checks.told(text);
-    }
-
-    private static int bits(int... numbers) {
-        return Checks.bits(numbers);
-    }
-
-    private static int upTo(int most) {
-        return (1 << (most + 1)) - 2;
     }
 
     /** The answers to the calls of one number, from the first one told on. */
@@ -96,17 +82,17 @@ public final class DocumentPromisesTest {
     private static void text() {
         says("## Promise 4: text `int text()`: THE TAPE (empty then) tells all: how many lines;");
         NeverAgain x = new NeverAgain();
-        due("three lines", 3, Checks.tell(x, "most 7; near;  gap 3;"));
+        due("three lines", 3, tell(x, "most 7; near;  gap 3;"));
         due("empty", 0, x.count(4));
         dueFrom("rule", 0, x::rule, 7, 2, 3, 1, 0, 0);
         due("no lines", 0, x.text());
         dueFrom("rule", 0, x::rule, 12, 2, 0, 0, 0, 0);
         says("-10 less the place of its FAULT: that which was told stays.");
-        Checks.tell(x, "most 7;near;gap 3;matters 3 2;book rank;page 7 2;rung 7;ask 2;wait 1 1;");
+        tell(x, "most 7;near;gap 3;matters 3 2;book rank;page 7 2;rung 7;ask 2;wait 1 1;");
         x.tell(2);
         x.keep(0);
-        due("at place 18", -28, Checks.tell(x, "most 5;gap 1;rung 17;"));
-        due("at place 0", -10, Checks.tell(x, "#"));
+        due("at place 18", -28, tell(x, "most 5;gap 1;rung 17;"));
+        due("at place 0", -10, tell(x, "#"));
         due("empty too", 0, x.count(4));
         dueFrom("rule", 0, x::rule, 7, 3, 3, 1, 1, 1);
         due("WEIGHT", 2, x.weight(0));
@@ -118,11 +104,11 @@ public final class DocumentPromisesTest {
         due("no text", 0, x.fault());
         String[] faulty = {"#", "foo;", "gap 21;", "near;near;", "ask 0 0 0 0 0 0;", "ask 2;"};
         for (int i = 0; i < 6; i++) {
-            Checks.tell(x, faulty[i]);
+            tell(x, faulty[i]);
             due(faulty[i], i + 1, x.fault());
             due("again", i + 1, x.fault());
         }
-        Checks.feedText(x, "near;");
+        feedText(x, "near;");
         due("not before text()", 6, x.fault());
         x.text();
         due("none", 0, x.fault());
@@ -230,9 +216,11 @@ public final class DocumentPromisesTest {
         due("SILENT", NONE, x.ring(0));
         x.book(0);
         due("fixed", 1, x.ring(5));
+        due("fixed, SILENT", NONE, x.ring(0));
         x.book(2);
         due("told", 1, x.ring(1));
-        dueFrom("day", 0, x::day, 2, 3, 4, 0, 5, 1, BAD);
+        due("told, SILENT", NONE, x.ring(0));
+        dueFrom("day", 0, x::day, 2, 3, 4, 0, 5, 0, 1, 0, BAD);
         x.undo(0);
         due("MEANS none, and is RUNG", NONE, x.ring(5));
         due("DAY", 5, x.day(0));
@@ -409,6 +397,9 @@ public final class DocumentPromisesTest {
         // 0 1 and 2 3 have as many more.
         worstIs("most 13;matters 4;near;book told;page 1 2;page 4 2;page 2 3;page 6 3;page 8 0;page 11 0;page 9 1;page 13 1;",
             2, 1, 1);
+        // 9 is next to 10 TODAY, and so 0 can not be the first of the three.
+        worstIs("most 10;matters 4;near;book told;page 1 3;page 4 3;page 2 2;page 6 2;page 9 0;rung 10;", 3, 1, 3 * 16 + 2 * 4);
+        worstIs("most 4;matters 4;book told;page 1 3;", 1, 0, 3);
         worstIs("most 4;matters 4;", 3, 0, 6);
         worstIs("most 4;matters 1;rung 1 2 3;", 1, 0, 0);
         NeverAgain x = told("most 6;near;book told;page 1 0;page 4 0;page 2 1;page 6 1;rung 2 0;");
@@ -559,6 +550,8 @@ public final class DocumentPromisesTest {
         setsAre(told("most 16;"), 6, 23, 2, bits(1, 2, 3, 4, 5, 8), bits(1, 2, 3, 4));
         says("BAD; NONE (1, 2): none.");
         setsAre(x, 1, 2, 0, NONE, NONE);
+        setsAre(x, 1, 8, 0, NONE, NONE);
+        setsAre(x, 2, 15, 0, NONE, NONE);
         setsAre(x, 1, 0, 0, NONE, NONE);
         setsAre(x, 6, 100, 0, NONE, NONE);
         due("n 0", BAD, x.forgotten(0, 5, 0));

@@ -16,8 +16,7 @@ import java.util.regex.Pattern;
  * The document from its first line to the end of its terms, passage by passage: each is quoted,
  * and behind it stands what would not be so if it did not hold. DocumentPromisesTest has the rest.
  */
-public final class DocumentTermsTest {
-    private static final int BAD = -1, STATE = -2, FULL = -3, NONE = -4;
+public final class DocumentTermsTest extends Bell {
     private static final Checks C = new Checks("DocumentTermsTest");
     private static Document doc;
 
@@ -29,28 +28,16 @@ public final class DocumentTermsTest {
         doc.due(call, want, got);
     }
 
-    private static NeverAgain told(String text) {
-        return Checks.told(text);
-    }
-
-    private static int bits(int... numbers) {
-        return Checks.bits(numbers);
-    }
-
-    private static int upTo(int most) {
-        return (1 << (most + 1)) - 2;
-    }
-
     /** A text is refused, with this fault at this place. */
     private static void faulty(String text, int kind, int place) {
         NeverAgain x = new NeverAgain();
-        due("text() of " + text, -10 - place, Checks.tell(x, text));
+        due("text() of " + text, -10 - place, tell(x, text));
         due("fault() of " + text, kind, x.fault());
     }
 
     private static void taken(String text, int lines) {
         NeverAgain x = new NeverAgain();
-        due("text() of " + text, lines, Checks.tell(x, text));
+        due("text() of " + text, lines, tell(x, text));
         due("fault() of " + text, 0, x.fault());
     }
 
@@ -167,7 +154,7 @@ public final class DocumentTermsTest {
         x.sheet(0, 1, 2);
         x.lay(0, 1, 3);
         x.read(0, 1, 2, 1);
-        Checks.tell(x, "gap 99;");
+        tell(x, "gap 99;");
         for (int i = 0; i < 50; i++) {
             x.feed(0x2020202020202020L);
         }
@@ -232,13 +219,13 @@ public final class DocumentTermsTest {
         });
         Supplier<NeverAgain> withFault = () -> {
             NeverAgain x = room.get();
-            Checks.tell(x, "near;foo");
+            tell(x, "near;foo");
             return x;
         };
         nothingChanges("a text with a FAULT but for THE TAPE", 0, withFault, x -> {
-            Checks.feedText(x, "most 9;foo");
+            feedText(x, "most 9;foo");
             x.text();
-            Checks.feedText(x, "near;foo");
+            feedText(x, "near;foo");
             return x.text() == -15 && x.fault() == 2 ? x.count(4) : -99;
         });
     }
@@ -384,7 +371,7 @@ public final class DocumentTermsTest {
             faulty(" ".repeat(place) + "#" + " ".repeat(399 - place), 1, place);
         }
         NeverAgain x = new NeverAgain();
-        Checks.feedText(x, " ".repeat(400));
+        feedText(x, " ".repeat(400));
         due("no more", FULL, x.feed(0));
         says("TOKENS, each as long as may be, blanks (32) between: NAMES (a .. z), NUMBERS (1 or 2 figures), one ; .");
         faulty("nearnear;", 2, 0);
@@ -393,6 +380,7 @@ public final class DocumentTermsTest {
         faulty("ne ar;", 2, 0);
         taken("   gap   5   ;   near   ;   ", 2);
         taken("gap 5;near;", 2);
+        taken("gap5;rung1 2 03;", 2);
         for (char c : new char[] {0, 9, 10, 13, 31, 33, '`', '{', 'A', 'Z', '/', ':', '<', '-', 127, 128, 160, 255}) {
             faulty("gap" + c + "5;", 1, 3);
             faulty("gap 5" + c + ";", 1, 5);
@@ -582,13 +570,17 @@ public final class DocumentTermsTest {
         x.tell(3);
         x.keep(0);
         x.keep(1);
-        due("taken", 1, Checks.tell(x, "rung 7;"));
+        x.sheet(0, 1, 7);
+        x.read(0, 0, 0, 1);
+        due("taken", 1, tell(x, "rung 7;"));
         toldAnew(x);
-        due("taken again", 1, Checks.tell(x, "rung 7;"));
+        due("a SHEET is not told by a text, and stays", 7, x.count(5));
+        due("so does what was found in one", 3, x.torn());
+        due("taken again", 1, tell(x, "rung 7;"));
         toldAnew(x);
-        Checks.tell(x, "most 16;matters 4;rung 16 16 16;ask 3 3;wait 3 0;wait 3 0;page 16 3;");
+        tell(x, "most 16;matters 4;rung 16 16 16;ask 3 3;wait 3 0;wait 3 0;page 16 3;");
         for (int i = 0; i < 3; i++) {
-            due("there are fewer NUMBERS and MATTERS than there were", 2, Checks.tell(x, "most 4;matters 1;"));
+            due("there are fewer NUMBERS and MATTERS than there were", 2, tell(x, "most 4;matters 1;"));
         }
     }
 

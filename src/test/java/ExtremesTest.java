@@ -4,7 +4,7 @@ import java.lang.reflect.Modifier;
 import java.util.Arrays;
 
 /** No call ever throws, for any arguments in any state: numbers far away and near each bound. */
-public final class ExtremesTest {
+public final class ExtremesTest extends Bell {
     private static final Checks C = new Checks("ExtremesTest");
     private static final int[] VALUES = {Integer.MIN_VALUE, Integer.MIN_VALUE + 1, -401, -20, -4, -1, 0, 1, 2, 3, 4, 5, 10, 14, 16,
         17, 20, 21, 23, 40, 60, 100, 400, Integer.MAX_VALUE - 19, Integer.MAX_VALUE};
@@ -19,7 +19,7 @@ public final class ExtremesTest {
     };
 
     private static NeverAgain make(String text) {
-        NeverAgain x = Checks.told(text);
+        NeverAgain x = told(text);
         x.sheet(0, 0, 40);
         x.sheet(1, 1, 1);
         x.sheet(2, 2, 0);

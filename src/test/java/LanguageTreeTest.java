@@ -290,6 +290,10 @@ public final class LanguageTreeTest {
 
     public static void main(String[] args) throws IOException {
         JavaCompiler compiler = ToolProvider.getSystemJavaCompiler();
+        if (compiler == null) {
+            System.out.println("LanguageTreeTest: this java has no compiler inside, and can not read the tree");
+            return;
+        }
         StandardJavaFileManager files = compiler.getStandardFileManager(null, null, null);
         JavacTask task = (JavacTask) compiler.getTask(null, files, null, List.of("-proc:none"), null,
             files.getJavaFileObjects(new File("src/main/java/NeverAgain.java")));

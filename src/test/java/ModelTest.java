@@ -3,7 +3,7 @@ import java.util.List;
 import java.util.Random;
 
 /** Long runs of calls, seeded, against the plain model: each answer, and all that can be asked. */
-public final class ModelTest {
+public final class ModelTest extends Bell {
     private static final Checks CHECKS = new Checks("ModelTest");
 
     private final Random random;

@@ -12,7 +12,7 @@ import java.util.regex.Pattern;
 import java.util.stream.Stream;
 
 /** What README.md tells is so: its examples, its calls, the lines of a text, its classes, its tests. */
-public final class ReadmeTest {
+public final class ReadmeTest extends Bell {
     private static final Checks C = new Checks("ReadmeTest");
     private static final String EXAMPLE_LINE = "bell\\.(\\w+)\\(([^)]*)\\);\\s*// (-?\\d+|NeverAgain\\.\\w+):? .*";
 
@@ -92,8 +92,8 @@ public final class ReadmeTest {
         for (String line : lines) {
             String once = line.replaceAll("\\{ N \\} ", "");
             String more = line.replaceAll("[{}] ", "");
-            C.due("told: " + once, 1, Checks.tell(new NeverAgain(), once.replaceAll("N", line.startsWith("most") ? "4" : "1")));
-            C.due("told: " + more, 1, Checks.tell(new NeverAgain(), more.replaceAll("N", line.startsWith("most") ? "4" : "1")));
+            C.due("told: " + once, 1, tell(new NeverAgain(), once.replaceAll("N", line.startsWith("most") ? "4" : "1")));
+            C.due("told: " + more, 1, tell(new NeverAgain(), more.replaceAll("N", line.startsWith("most") ? "4" : "1")));
         }
     }
 

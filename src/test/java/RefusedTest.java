@@ -6,9 +6,7 @@ import java.util.function.ToLongFunction;
  * "What is refused changes nothing (but THE TAPE, as told)", and neither does a call that only
  * asks: each such call is made on one of two like objects, and both hold the same behind it.
  */
-public final class RefusedTest {
-    private static final int BAD = -1, STATE = -2, FULL = -3, NONE = -4;
-    private static final int LOW = Integer.MIN_VALUE, HIGH = Integer.MAX_VALUE;
+public final class RefusedTest extends Bell {
     private static final Checks C = new Checks("RefusedTest");
 
     private static NeverAgain fresh() {
@@ -17,7 +15,7 @@ public final class RefusedTest {
 
     /** Some of everything, and room for more. */
     private static NeverAgain rich() {
-        NeverAgain x = Checks.told("most 7;matters 3 2 5;gap 3;near;book rank;page 2 1;page 7 2;rung 1 4 0 6;"
+        NeverAgain x = told("most 7;matters 3 2 5;gap 3;near;book rank;page 2 1;page 7 2;rung 1 4 0 6;"
             + "ask 2 0 1;wait 1 3;wait 0 4;");
         x.keep(1);
         x.ring(3);
@@ -30,14 +28,14 @@ public final class RefusedTest {
         layAll(x, 1, 1, 7, 7);
         layAll(x, 2, 2);
         x.read(0, 0, 5, 1);
-        Checks.tell(x, "gap 21;");
-        Checks.feedText(x, "gap 2 ;near;");
+        tell(x, "gap 21;");
+        feedText(x, "gap 2 ;near;");
         return x;
     }
 
     /** As much of everything as there may be. */
     private static NeverAgain full() {
-        NeverAgain x = Checks.told("most 16;matters 4 9 9 9 9;gap 20;near;book told;page 16 3;page 1 0;rung 1"
+        NeverAgain x = told("most 16;matters 4 9 9 9 9;gap 20;near;book told;page 16 3;page 1 0;rung 1"
             + " 0".repeat(56) + " 4 6 8;ask 0 1 2 3 0;wait 0 0;wait 1 1;wait 2 2;wait 3 4;");
         x.keep(0);
         x.keep(1);
@@ -48,7 +46,7 @@ public final class RefusedTest {
             x.sheet(k, k % 3, 40);
             x.lay(k, 39, k + 1);
         }
-        Checks.feedText(x, "near;" + " ".repeat(395));
+        feedText(x, "near;" + " ".repeat(395));
         return x;
     }
 
@@ -251,7 +249,7 @@ public final class RefusedTest {
     private static NeverAgain fullWithoutTape() {
         NeverAgain x = full();
         x.end(0);
-        Checks.tell(x, "most 3;");
+        tell(x, "most 3;");
         return x;
     }
 
@@ -260,11 +258,11 @@ public final class RefusedTest {
         String[] texts = {"most 3;", "most 4;gap 99", "near;book told;rung 1 2 3;ask 1;matters 5;",
             "matters 1 9;wait 0 4;page 1 0;page 2 4;", "rung 17;"};
         for (String text : texts) {
-            alike("4 text " + text, RefusedTest::richWithoutTape, x -> Checks.tell(x, text));
-            alike("4 text " + text, RefusedTest::fullWithoutTape, x -> Checks.tell(x, text));
+            alike("4 text " + text, RefusedTest::richWithoutTape, x -> tell(x, text));
+            alike("4 text " + text, RefusedTest::fullWithoutTape, x -> tell(x, text));
         }
         NeverAgain x = richWithoutTape();
-        C.due("4 a refused text", -16, Checks.tell(x, "near; #"));
+        C.due("4 a refused text", -16, tell(x, "near; #"));
         C.due("4 a refused text empties the tape", 0, x.count(4));
     }
 
@@ -348,7 +346,7 @@ public final class RefusedTest {
         seen("a cell of another sheet", x -> x.lay(1, 1, 1));
         seen("a sheet", x -> x.sheet(3, 0, 0));
         seen("a lane", x -> x.sheet(2, 1, 0));
-        seen("another fault", x -> Checks.tell(x, "near") + x.feed(0));
+        seen("another fault", x -> tell(x, "near") + x.feed(0));
         seen("another tear", x -> x.read(3, 0, 0, 1));
     }
 

@@ -2,8 +2,7 @@ import java.util.ArrayList;
 import java.util.List;
 
 /** The text of promises 4 and 5: each bound on both sides, and each fault at its place. */
-public final class TextBoundsTest {
-    private static final int BAD = -1, STATE = -2, NONE = -4;
+public final class TextBoundsTest extends Bell {
     private static final Checks C = new Checks("TextBoundsTest");
 
     /**
@@ -29,14 +28,14 @@ public final class TextBoundsTest {
 
     private static void taken(String text, int lines) {
         NeverAgain x = new NeverAgain();
-        C.due("4 text " + text, lines, Checks.tell(x, text));
+        C.due("4 text " + text, lines, tell(x, text));
         C.due("5 fault of " + text, 0, x.fault());
         C.due("4 tape behind " + text, 0, x.count(4));
     }
 
     private static void refused(String text, int fault, int place) {
         NeverAgain x = new NeverAgain();
-        C.due("4 text " + text, -10 - place, Checks.tell(x, text));
+        C.due("4 text " + text, -10 - place, tell(x, text));
         C.due("5 fault of " + text, fault, x.fault());
         C.due("4 tape behind " + text, 0, x.count(4));
     }
@@ -157,13 +156,13 @@ public final class TextBoundsTest {
         bounds("wait ", 0, 3, " 0");
         bounds("wait 0 ", 0, 4, "");
         for (int n = 4; n <= 16; n++) {
-            NeverAgain x = Checks.told("most " + n + ";");
+            NeverAgain x = told("most " + n + ";");
             C.due("4 most " + n, n, x.rule(0));
             C.due("4 most page " + n, NONE, x.page(n));
             C.due("4 most page behind " + n, BAD, x.page(n + 1));
         }
         for (int gap = 0; gap <= 20; gap++) {
-            C.due("4 gap " + gap, gap, Checks.told("gap " + gap + ";").rule(2));
+            C.due("4 gap " + gap, gap, told("gap " + gap + ";").rule(2));
         }
     }
 
@@ -176,8 +175,8 @@ public final class TextBoundsTest {
         refused("gap 21474836480;", 1, 4);
         refused("gap 4294967296;", 1, 4);
         refused("gap " + "0".repeat(396), 1, 4);
-        C.due("4 02 is 2", 2, Checks.told("gap 02;").rule(2));
-        C.due("4 20 is 20", 20, Checks.told("gap 20;").rule(2));
+        C.due("4 02 is 2", 2, told("gap 02;").rule(2));
+        C.due("4 20 is 20", 20, told("gap 20;").rule(2));
         refused("gap 2 0;", 2, 6);
         refused("gap -1;", 1, 4);
         refused("gap +1;", 1, 4);
@@ -236,12 +235,12 @@ public final class TextBoundsTest {
         for (int matters = 1; matters <= 4; matters++) {
             String line = "matters " + matters;
             for (int given = 0; given <= matters; given++) {
-                NeverAgain x = Checks.told(line + ";");
-                C.due("4 " + line, 1, Checks.tell(x, line + ";"));
+                NeverAgain x = told(line + ";");
+                C.due("4 " + line, 1, tell(x, line + ";"));
                 for (int m = 0; m < given; m++) {
                     C.due("4 no weight yet", 1, x.weight(m));
                 }
-                C.due("4 " + line, 1, Checks.tell(x, line + " 9".repeat(given) + ";"));
+                C.due("4 " + line, 1, tell(x, line + " 9".repeat(given) + ";"));
                 for (int m = 0; m < matters; m++) {
                     C.due("4 weight " + m + " of " + given, m < given ? 9 : 1, x.weight(m));
                 }
@@ -265,7 +264,7 @@ public final class TextBoundsTest {
         refused(days + ";rung 0;rung 0;", 5, days.length() + 13);
         refused(days + ";rung 0 0;", 5, days.length() + 8);
         refused(days + " 0;rung;", 2, days.length() + 7);
-        C.due("4 60 days", 60, Checks.told(days + " 1;").rule(5));
+        C.due("4 60 days", 60, told(days + " 1;").rule(5));
         String asked = "ask 0 0 1 1";
         taken(asked + ";", 1);
         taken(asked + " 0;", 1);
@@ -330,11 +329,11 @@ public final class TextBoundsTest {
 
     /** Days that are told need not be as the charter wants them. */
     private static void anyDays() {
-        NeverAgain x = Checks.told("gap 0;near;rung 5 5 6 4 5;");
+        NeverAgain x = told("gap 0;near;rung 5 5 6 4 5;");
         C.due("4 day 1", 5, x.day(1));
         C.due("4 day 2", 6, x.day(2));
-        C.due("15 may", 8190 & ~Checks.bits(4, 5, 6), x.may());
-        x = Checks.told("gap 20;rung 1 1 1;rung 2;");
+        C.due("15 may", 8190 & ~bits(4, 5, 6), x.may());
+        x = told("gap 20;rung 1 1 1;rung 2;");
         C.due("4 day 3", 2, x.day(3));
     }
 
@@ -375,11 +374,11 @@ public final class TextBoundsTest {
     }
 
     private static void inPlaceOfWhatThereWas() {
-        NeverAgain x = Checks.told("most 5;matters 3 9 8 7;gap 3;near;book told;page 5 2;rung 1 2;ask 2;wait 2 4;");
+        NeverAgain x = told("most 5;matters 3 9 8 7;gap 3;near;book told;page 5 2;rung 1 2;ask 2;wait 2 4;");
         x.tell(1);
         x.keep(0);
         x.keep(1);
-        C.due("4 all new", 1, Checks.tell(x, "rung 3;"));
+        C.due("4 all new", 1, tell(x, "rung 3;"));
         int[] rules = {12, 2, 0, 0, 0, 1};
         for (int i = 0; i < 6; i++) {
             C.due("4 rule " + i, rules[i], x.rule(i));
@@ -407,10 +406,10 @@ public final class TextBoundsTest {
         String all = "most 5;matters 3 9 8 7;gap 3;near;book told;page 5 2;rung 1 2;ask 2;wait 2 4;";
         NeverAgain x = new NeverAgain();
         for (int i = 0; i < 3; i++) {
-            C.due("4 all", 9, Checks.tell(x, all));
+            C.due("4 all", 9, tell(x, all));
         }
         for (int i = 0; i < 3; i++) {
-            C.due("4 a fault", -10 - all.length(), Checks.tell(x, all + "#"));
+            C.due("4 a fault", -10 - all.length(), tell(x, all + "#"));
         }
         int[] rules = {12, 2, 0, 0, 0, 0};
         for (int texts = 0; texts < 3; texts++) {
@@ -431,7 +430,7 @@ public final class TextBoundsTest {
     private static void latestFault() {
         NeverAgain x = new NeverAgain();
         C.due("5 at first", 0, x.fault());
-        Checks.tell(x, "#");
+        tell(x, "#");
         C.due("5 one", 1, x.fault());
         x.feed(0x6e6561723b202020L);
         C.due("5 feed is no text", 1, x.fault());
