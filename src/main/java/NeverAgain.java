@@ -784,7 +784,7 @@ public final class NeverAgain {
 
         /**
          * No number below this one tells the matter on this day or on the four behind it:
-         * it cuts the searches short. A rank only rises as fewer numbers are free.
+         * it cuts the searches short. The number of a rank only rises as fewer numbers are free.
          */
         int floorFor(int m) {
             int bits = bitsByGap(today + LAST_WAIT_DAY);
